@@ -16,6 +16,7 @@ public final class EditingTest {
         restoreWrongly();
         learnSigns();
         learnTheGreaterStamp();
+        learnTheStampOfRemoving();
         learnRemovedSigns();
         learnTheClock();
         learnWrongly();
@@ -247,6 +248,23 @@ public final class EditingTest {
         Check.text(y, 3, 1, 0);
         y.learn(2, 1);
         Check.text(y, 2, 1, 0);
+    }
+
+    /** Author 1 restores and author 3 removes one sign, both with the clock 4. */
+    private static void learnTheStampOfRemoving() {
+        CoauthorText x = new CoauthorText();
+        x.insert(0, 0, 0);
+        x.remove(0, 0);
+        x.learn(1, 0);
+        x.learn(3, 0);
+        x.insert(1, 0, 0);
+        x.restore(1, 0);
+        x.restore(3, 0);
+        x.remove(3, 0);
+        x.learn(1, 3);
+        Check.text(x, 1, 1);
+        x.learn(3, 1);
+        Check.text(x, 3, 1);
     }
 
     private static void learnRemovedSigns() {
