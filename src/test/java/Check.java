@@ -1,33 +1,57 @@
-/** Counts and prints the calls whose answer is not the one that is due. */
+import java.lang.reflect.InvocationTargetException;
+import java.lang.reflect.Method;
+import java.util.Arrays;
+import java.util.Comparator;
+
+/** Runs tests, and counts and prints the calls whose answer is not the one that is due. */
 final class Check {
+    static final String ARGUMENT = "throws.IllegalArgumentException";
+    static final String INDEX = "throws.IndexOutOfBoundsException";
+    static final String STATE = "throws.IllegalStateException";
+
     interface Call {
         long answer();
     }
 
+    private static String test = "";
     private static int checked = 0;
     private static int wrong = 0;
 
     private Check() {
     }
 
-    static void due(String call, long want, Call made) {
-        told(call, String.valueOf(want), outcome(made));
+    /** Every test of a class is run: the methods that bear the name of a promise. */
+    static void runTests(Class<?> tests, String... promises) {
+        Method[] methods = tests.getDeclaredMethods();
+        Arrays.sort(methods, Comparator.comparing(Method::getName));
+        for (String promise : promises) {
+            int checkedBefore = checked;
+            for (Method method : methods) {
+                if (method.getName().startsWith(promise + "_")) {
+                    runTest(method);
+                }
+            }
+            test = "";
+            told("tests of " + promise, "true", String.valueOf(checked > checkedBefore));
+        }
+        for (Method method : methods) {
+            boolean named = method.getName().startsWith("promise");
+            boolean run = Arrays.stream(promises).anyMatch(p -> method.getName().startsWith(p + "_"));
+            told(method.getName() + " is run", String.valueOf(named), String.valueOf(run));
+        }
+        end();
     }
 
-    static void due(String call, boolean want, boolean got) {
-        told(call, String.valueOf(want), String.valueOf(got));
-    }
-
-    static void argumentOut(String call, Call made) {
-        told(call, "throws.IllegalArgumentException", outcome(made));
-    }
-
-    static void indexOut(String call, Call made) {
-        told(call, "throws.IndexOutOfBoundsException", outcome(made));
-    }
-
-    static void stateOut(String call, Call made) {
-        told(call, "throws.IllegalStateException", outcome(made));
+    private static void runTest(Method method) {
+        test = method.getName() + ": ";
+        try {
+            method.setAccessible(true);
+            method.invoke(null);
+        } catch (InvocationTargetException thrown) {
+            told("the test", "its end", "throws " + thrown.getCause());
+        } catch (IllegalAccessException thrown) {
+            told("the test", "its end", "throws " + thrown);
+        }
     }
 
     static String outcome(Call made) {
@@ -42,19 +66,12 @@ final class Check {
         checked++;
         if (!want.equals(got)) {
             wrong++;
-            System.out.println(call + " answered " + got + ", due is " + want);
+            System.out.println(test + call + " answered " + got + ", due is " + want);
         }
     }
 
-    /** The signs of a copy's text, as the calls tell them one by one. */
-    static void text(CoauthorText x, int author, int... signs) {
-        due("length(" + author + ")", signs.length, () -> x.length(author));
-        for (int place = 0; place < signs.length; place++) {
-            int at = place;
-            due("signAt(" + author + ", " + at + ")", signs[at], () -> x.signAt(author, at));
-        }
-        indexOut("signAt(" + author + ", " + signs.length + ")",
-                () -> x.signAt(author, signs.length));
+    static void due(String what, boolean want, boolean got) {
+        told(what, String.valueOf(want), String.valueOf(got));
     }
 
     static void end() {

@@ -2,348 +2,822 @@
 public final class EditingTest {
     private static final int LEAST = Integer.MIN_VALUE;
     private static final int MOST = Integer.MAX_VALUE;
-    private static final int[] NO_AUTHORS = {-1, 4, LEAST, MOST};
 
     public static void main(String[] args) {
-        newObject();
-        insertAtPlaces();
-        insertBehindOneSign();
-        insertWrongly();
-        insertSixtySigns();
-        removeSigns();
-        removeWrongly();
-        restoreSigns();
-        restoreWrongly();
-        learnSigns();
-        learnTheGreaterStamp();
-        learnTheStampOfRemoving();
-        learnRemovedSigns();
-        learnTheClock();
-        learnWrongly();
-        orderOfCopies();
-        deepChain();
-        Check.end();
+        Check.runTests(EditingTest.class,
+                "promise01", "promise02", "promise03", "promise04", "promise05");
     }
 
-    private static void newObject() {
-        CoauthorText x = new CoauthorText();
-        Check.due("NONE", -1, () -> CoauthorText.NONE);
-        Check.due("signs()", 0, x::signs);
-        Check.due("setFloor(0)", 0, () -> x.setFloor(0));
-        for (int author = 0; author < 4; author++) {
-            int a = author;
-            Check.text(x, a);
-            Check.due("clock(" + a + ")", 0, () -> x.clock(a));
-            Check.due("paid(" + a + ")", 0, () -> x.paid(a));
-            Check.due("left(" + a + ")", 0, () -> x.left(a));
+    // ---- promise 1: a new object
+
+    private static void promise01_copiesAreEmpty() {
+        Trial t = new Trial();
+        t.signs().is(0);
+        for (int author : Trial.AUTHORS) {
+            t.length(author).is(0);
+            t.signAt(author, 0).isRefused(Check.INDEX);
+            for (int other : Trial.AUTHORS) {
+                t.areAlike(author, other).is(true);
+            }
         }
-        Check.indexOut("printed(0, 0)", () -> x.printed(0, 0));
-        Check.indexOut("authorOf(0)", () -> x.authorOf(0));
-        x.insert(0, 0, 0);
-        Check.due("signs() of another one", 0, () -> new CoauthorText().signs());
     }
 
-    private static void insertAtPlaces() {
-        CoauthorText x = new CoauthorText();
-        Check.due("insert(1, 0, 0)", 0, () -> x.insert(1, 0, 0));
-        Check.due("insert(1, 1, 25)", 1, () -> x.insert(1, 1, 25));
-        Check.due("insert(1, 1, 7)", 2, () -> x.insert(1, 1, 7));
-        Check.due("insert(1, 0, 8)", 3, () -> x.insert(1, 0, 8));
-        Check.text(x, 1, 3, 0, 2, 1);
-        Check.text(x, 0);
-        Check.due("clock(1)", 4, () -> x.clock(1));
-        Check.due("clock(0)", 0, () -> x.clock(0));
+    private static void promise01_clocksAre0() {
+        new Trial().clocksAre(0, 0, 0, 0);
     }
 
-    private static void insertBehindOneSign() {
-        CoauthorText x = new CoauthorText();
-        x.insert(0, 0, 0);
-        x.learn(1, 0);
-        x.learn(2, 0);
-        x.insert(1, 1, 1);
-        x.insert(2, 1, 2);
-        x.insert(2, 2, 3);
-        x.insert(0, 1, 4);
-        x.insert(0, 1, 5);
-        x.learn(3, 0);
-        x.learn(3, 1);
-        x.learn(3, 2);
-        // 5 has clock 3; 2, 1 and 4 have clock 2 of the authors 2, 1 and 0; 3 is behind 2.
-        Check.text(x, 3, 0, 5, 2, 3, 1, 4);
+    private static void promise01_noEditions() {
+        Trial t = new Trial();
+        t.printed(0, 0).isRefused(Check.INDEX);
+        t.sell(0, 1).isRefused(Check.INDEX);
     }
 
-    private static void insertWrongly() {
-        CoauthorText x = new CoauthorText();
-        x.insert(0, 0, 3);
-        for (int author : NO_AUTHORS) {
-            Check.argumentOut("insert(" + author + ", 9, 26)", () -> x.insert(author, 9, 26));
-            Check.argumentOut("insert(" + author + ", 0, 0)", () -> x.insert(author, 0, 0));
+    private static void promise01_floorIs0AndNoMoneyIsThere() {
+        Trial t = new Trial();
+        t.paidIs(0, 0, 0, 0);
+        t.leftIs(0, 0, 0, 0);
+        t.setFloor(0).is(0);
+    }
+
+    private static void promise01_objectsShareNothing() {
+        Trial first = new Trial();
+        Trial second = new Trial();
+        first.insert(0, 0, 3).is(0);
+        first.print(0).is(0);
+        first.setFloor(9).is(0);
+        first.advance(1, 5).is(5);
+        second.signs().is(0);
+        second.clocksAre(0, 0, 0, 0);
+        second.printed(0, 0).isRefused(Check.INDEX);
+        second.leftIs(0, 0, 0, 0);
+        second.setFloor(0).is(0);
+        second.insert(2, 0, 4).is(0);
+        first.authorOf(0).is(0);
+        second.authorOf(0).is(2);
+    }
+
+    /** 'What it is': an object is used for 512 calls, the last of which still holds. */
+    private static void promise01_whatItIs_512Calls() {
+        Trial t = new Trial();
+        t.insert(0, 0, 1).is(0);
+        for (int pair = 0; pair < 255; pair++) {
+            t.remove(0, 0).is(0);
+            t.restore(0, 0).is(0);
         }
+        t.clock(0).is(511);
+        Check.told("calls", "512", "" + t.calls());
+    }
+
+    private static void promise01_whatItIs_call512IsRefused() {
+        Trial t = new Trial();
+        t.insert(0, 0, 1).is(0);
+        for (int ask = 0; ask < 510; ask++) {
+            t.signAt(0, 0).is(0);
+        }
+        t.insert(0, 2, 1).isRefusedAtTheEnd(Check.INDEX);
+        Check.told("calls", "512", "" + t.calls());
+    }
+
+    // ---- promise 2: insert
+
+    private static void promise02_authorIs0To3() {
+        Trial t = new Trial();
+        t.insert(0, 0, 0).is(0);
+        t.insert(3, 0, 0).is(1);
+        t.insert(1, 0, 0).is(2);
+        t.insert(2, 0, 0).is(3);
+        for (int author : Trial.NO_AUTHORS) {
+            t.insert(author, 0, 0).isRefused(Check.ARGUMENT);
+        }
+    }
+
+    private static void promise02_authorOutOfRangeInANewObject() {
+        for (int author : Trial.NO_AUTHORS) {
+            new Trial().insert(author, 0, 0).isRefused(Check.ARGUMENT);
+        }
+    }
+
+    private static void promise02_letterIs0To25() {
+        Trial t = new Trial();
+        t.insert(0, 0, 0).is(0);
+        t.insert(0, 1, 25).is(1);
+        t.letterAt(0, 0).is(0);
+        t.letterAt(0, 1).is(25);
         for (int letter : new int[] {-1, 26, LEAST, MOST}) {
-            Check.argumentOut("insert(0, 0, " + letter + ")", () -> x.insert(0, 0, letter));
-            Check.argumentOut("insert(0, 2, " + letter + ")", () -> x.insert(0, 2, letter));
+            t.insert(0, 0, letter).isRefused(Check.ARGUMENT);
         }
-        for (int place : new int[] {-1, 2, LEAST, MOST}) {
-            Check.indexOut("insert(0, " + place + ", 0)", () -> x.insert(0, place, 0));
-        }
-        Check.indexOut("insert(1, 1, 0)", () -> x.insert(1, 1, 0));
-        Check.due("signs()", 1, x::signs);
-        Check.due("clock(0)", 1, () -> x.clock(0));
-        Check.due("clock(1)", 0, () -> x.clock(1));
-        Check.text(x, 0, 0);
     }
 
-    private static void insertSixtySigns() {
-        CoauthorText x = new CoauthorText();
-        for (int sign = 0; sign < 60; sign++) {
-            int s = sign;
-            Check.due("insert " + s, s, () -> x.insert(s % 4, 0, s % 26));
-        }
-        Check.stateOut("insert(0, 0, 0) beyond 60", () -> x.insert(0, 0, 0));
-        Check.stateOut("insert(0, 15, 0) beyond 60", () -> x.insert(0, 15, 0));
-        Check.indexOut("insert(0, 16, 0) beyond 60", () -> x.insert(0, 16, 0));
-        Check.indexOut("insert(0, -1, 0) beyond 60", () -> x.insert(0, -1, 0));
-        Check.argumentOut("insert(0, 0, 26) beyond 60", () -> x.insert(0, 0, 26));
-        Check.argumentOut("insert(4, 0, 0) beyond 60", () -> x.insert(4, 0, 0));
-        Check.due("signs()", 60, x::signs);
-        Check.due("clock(0)", 15, () -> x.clock(0));
-        Check.due("length(0)", 15, () -> x.length(0));
-        Check.due("remove(0, 0)", 56, () -> x.remove(0, 0));
-        Check.stateOut("insert(0, 0, 0) after a removal", () -> x.insert(0, 0, 0));
-    }
-
-    private static void removeSigns() {
-        CoauthorText x = new CoauthorText();
-        x.insert(0, 0, 0);
-        x.insert(0, 1, 1);
-        x.insert(0, 2, 2);
-        x.learn(1, 0);
-        Check.due("remove(0, 1)", 1, () -> x.remove(0, 1));
-        Check.text(x, 0, 0, 2);
-        Check.text(x, 1, 0, 1, 2);
-        Check.due("clock(0)", 4, () -> x.clock(0));
-        Check.due("remove(0, 1)", 2, () -> x.remove(0, 1));
-        Check.due("remove(0, 0)", 0, () -> x.remove(0, 0));
-        Check.text(x, 0);
-        Check.due("signs()", 3, x::signs);
-        // What was inserted behind a removed sign stays, and a removed sign is no place.
-        Check.due("insert(0, 0, 4)", 3, () -> x.insert(0, 0, 4));
-        Check.due("behind(3)", -1, () -> x.behind(3));
-        Check.due("remove(1, 0)", 0, () -> x.remove(1, 0));
-        Check.text(x, 1, 1, 2);
-        Check.due("insert(1, 1, 5)", 4, () -> x.insert(1, 1, 5));
-        Check.due("behind(4)", 1, () -> x.behind(4));
-    }
-
-    private static void removeWrongly() {
-        CoauthorText x = new CoauthorText();
-        x.insert(0, 0, 0);
-        x.learn(1, 0);
-        x.remove(1, 0);
-        for (int author : NO_AUTHORS) {
-            Check.argumentOut("remove(" + author + ", 0)", () -> x.remove(author, 0));
-            Check.argumentOut("remove(" + author + ", 7)", () -> x.remove(author, 7));
-        }
+    private static void promise02_placeIs0InAnEmptyText() {
+        Trial t = new Trial();
         for (int place : new int[] {-1, 1, LEAST, MOST}) {
-            Check.indexOut("remove(0, " + place + ")", () -> x.remove(0, place));
+            t.insert(2, place, 0).isRefused(Check.INDEX);
         }
-        Check.indexOut("remove(1, 0)", () -> x.remove(1, 0));
-        Check.indexOut("remove(2, 0)", () -> x.remove(2, 0));
-        Check.due("clock(0)", 1, () -> x.clock(0));
-        Check.due("clock(1)", 2, () -> x.clock(1));
-        Check.due("clock(2)", 0, () -> x.clock(2));
-        Check.text(x, 0, 0);
+        t.insert(2, 0, 0).is(0);
+        t.textIs(2, 0);
     }
 
-    private static void restoreSigns() {
-        CoauthorText x = new CoauthorText();
-        x.insert(2, 0, 0);
-        x.insert(2, 1, 1);
-        x.insert(2, 2, 2);
-        x.remove(2, 0);
-        x.remove(2, 1);
-        Check.due("restore(2, 2)", 1, () -> x.restore(2, 2));
-        Check.text(x, 2, 1, 2);
-        Check.due("restore(2, 0)", 0, () -> x.restore(2, 0));
-        Check.text(x, 2, 0, 1, 2);
-        Check.due("clock(2)", 7, () -> x.clock(2));
-        x.learn(3, 2);
-        x.remove(2, 2);
-        Check.stateOut("restore(3, 2)", () -> x.restore(3, 2));
-        x.learn(3, 2);
-        Check.due("restore(3, 2)", 2, () -> x.restore(3, 2));
-        Check.text(x, 2, 0, 1);
-    }
-
-    private static void restoreWrongly() {
-        CoauthorText x = new CoauthorText();
-        x.insert(0, 0, 0);
-        x.insert(0, 0, 0);
-        x.remove(0, 0);
-        for (int sign : new int[] {-1, 2, 60, LEAST, MOST}) {
-            Check.indexOut("restore(0, " + sign + ")", () -> x.restore(0, sign));
-            Check.indexOut("restore(4, " + sign + ")", () -> x.restore(4, sign));
+    private static void promise02_placeIs0ToTheLength() {
+        Trial t = Trial.written(3);
+        for (int place : new int[] {-1, 4, LEAST, MOST}) {
+            t.insert(0, place, 0).isRefused(Check.INDEX);
         }
-        for (int author : NO_AUTHORS) {
-            Check.argumentOut("restore(" + author + ", 1)", () -> x.restore(author, 1));
-            Check.argumentOut("restore(" + author + ", 0)", () -> x.restore(author, 0));
+        t.insert(0, 3, 0).is(3);
+        t.textIs(0, 0, 1, 2, 3);
+        t.insert(0, 0, 0).is(4);
+        t.textIs(0, 4, 0, 1, 2, 3);
+    }
+
+    private static void promise02_placeIsInTheTextOfTheCopy() {
+        Trial t = Trial.written(3, 1);
+        t.insert(1, 2, 0).isRefused(Check.INDEX);
+        t.insert(2, 1, 0).isRefused(Check.INDEX);
+        t.insert(1, 1, 0).is(4);
+        t.textIs(1, 3, 4);
+    }
+
+    private static void promise02_removedSignsAreNoPlaces() {
+        Trial t = Trial.written(2);
+        t.remove(0, 1).is(1);
+        t.insert(0, 2, 0).isRefused(Check.INDEX);
+        t.remove(0, 0).is(0);
+        t.insert(0, 1, 0).isRefused(Check.INDEX);
+        t.insert(0, 0, 0).is(2);
+    }
+
+    /** 'Signs': numbered from 0, over all copies, in the order in which they are inserted. */
+    private static void promise02_signs_numbersGoOverAllCopies() {
+        Trial t = new Trial();
+        t.insert(3, 0, 0).is(0);
+        t.insert(0, 0, 0).is(1);
+        t.insert(3, 0, 0).is(2);
+        t.remove(3, 0).is(2);
+        t.insert(1, 0, 0).is(3);
+        t.textIs(3, 0);
+        t.textIs(0, 1);
+        t.textIs(1, 3);
+    }
+
+    /** 'Signs': at most 60 are. */
+    private static void promise02_signs_sixtyOfOneAuthor() {
+        Trial t = Trial.written(59);
+        t.insert(0, 59, 7).is(59);
+        t.insert(0, 0, 0).isRefused(Check.STATE);
+        t.insert(0, 60, 0).isRefused(Check.STATE);
+        t.insert(1, 0, 0).isRefused(Check.STATE);
+        t.signAt(0, 59).is(59);
+        t.signs().is(60);
+    }
+
+    private static void promise02_signs_sixtyOverAllCopies() {
+        Trial t = Trial.written(15, 15, 15, 14);
+        t.insert(1, 15, 25).is(59);
+        for (int author : Trial.AUTHORS) {
+            t.insert(author, 0, 0).isRefused(Check.STATE);
         }
-        Check.stateOut("restore(0, 0)", () -> x.restore(0, 0));
-        Check.stateOut("restore(1, 1)", () -> x.restore(1, 1));
-        Check.due("clock(0)", 3, () -> x.clock(0));
-        Check.due("clock(1)", 0, () -> x.clock(1));
-        Check.due("restore(0, 1)", 0, () -> x.restore(0, 1));
-        Check.stateOut("restore(0, 1) again", () -> x.restore(0, 1));
-        Check.due("clock(0)", 4, () -> x.clock(0));
     }
 
-    private static void learnSigns() {
-        CoauthorText x = new CoauthorText();
-        x.insert(0, 0, 0);
-        x.insert(0, 1, 1);
-        x.insert(1, 0, 2);
-        Check.due("learn(1, 0)", 2, () -> x.learn(1, 0));
-        Check.due("learn(1, 0) again", 0, () -> x.learn(1, 0));
-        Check.text(x, 0, 0, 1);
-        // 2 and 0 have the clock 1; the greater author comes first.
-        Check.text(x, 1, 2, 0, 1);
-        Check.due("learn(2, 1)", 3, () -> x.learn(2, 1));
-        Check.due("learn(2, 0)", 0, () -> x.learn(2, 0));
-        Check.due("learn(0, 3)", 0, () -> x.learn(0, 3));
-        Check.text(x, 0, 0, 1);
+    private static void promise02_signs_removedOnesCountAmongThe60() {
+        Trial t = Trial.written(59);
+        t.remove(0, 58).is(58);
+        t.insert(0, 0, 0).is(59);
+        t.remove(0, 0).is(59);
+        t.insert(0, 0, 0).isRefused(Check.STATE);
     }
 
-    private static void learnTheGreaterStamp() {
-        CoauthorText x = new CoauthorText();
-        x.insert(0, 0, 0);
-        x.learn(1, 0);
-        x.learn(2, 0);
-        x.remove(1, 0);
-        Check.due("learn(2, 1)", 0, () -> x.learn(2, 1));
-        Check.text(x, 2);
-        // A stamp that is not greater does not count, in either direction.
-        Check.due("learn(1, 0)", 0, () -> x.learn(1, 0));
-        Check.text(x, 1);
-        x.remove(0, 0);
-        x.restore(0, 0);
-        x.learn(1, 0);
-        Check.text(x, 1, 0);
-        // Now two stamps with the same clock: author 2 restores, author 1 removes.
-        CoauthorText y = new CoauthorText();
-        y.insert(0, 0, 0);
-        y.remove(0, 0);
-        y.learn(1, 0);
-        y.learn(2, 0);
-        y.learn(3, 0);
-        y.restore(1, 0);
-        y.remove(1, 0);
-        y.insert(2, 0, 5);
-        y.restore(2, 0);
-        Check.due("clock(1)", 4, () -> y.clock(1));
-        Check.due("clock(2)", 4, () -> y.clock(2));
-        y.learn(1, 2);
-        Check.text(y, 1, 1, 0);
-        y.learn(3, 2);
-        y.learn(3, 1);
-        Check.text(y, 3, 1, 0);
-        y.learn(2, 1);
-        Check.text(y, 2, 1, 0);
+    /** 'Terms': if several exceptions apply, the one that is listed first. */
+    private static void promise02_terms_firstListedException() {
+        Trial t = Trial.written(60);
+        t.insert(4, 0, 0).isRefused(Check.ARGUMENT);
+        t.insert(0, 0, 26).isRefused(Check.ARGUMENT);
+        t.insert(-1, 61, 0).isRefused(Check.ARGUMENT);
+        t.insert(0, 61, -1).isRefused(Check.ARGUMENT);
+        t.insert(0, -1, 26).isRefused(Check.ARGUMENT);
+        t.insert(0, 61, 0).isRefused(Check.INDEX);
+        t.insert(0, -1, 0).isRefused(Check.INDEX);
+        t.insert(1, 1, 0).isRefused(Check.INDEX);
+        Trial few = Trial.written(1);
+        few.insert(4, 2, 0).isRefused(Check.ARGUMENT);
+        few.insert(-1, -1, 26).isRefused(Check.ARGUMENT);
+        few.insert(0, 2, 26).isRefused(Check.ARGUMENT);
+        few.insert(0, -1, -1).isRefused(Check.ARGUMENT);
     }
 
-    /** Author 1 restores and author 3 removes one sign, both with the clock 4. */
-    private static void learnTheStampOfRemoving() {
-        CoauthorText x = new CoauthorText();
-        x.insert(0, 0, 0);
-        x.remove(0, 0);
-        x.learn(1, 0);
-        x.learn(3, 0);
-        x.insert(1, 0, 0);
-        x.restore(1, 0);
-        x.restore(3, 0);
-        x.remove(3, 0);
-        x.learn(1, 3);
-        Check.text(x, 1, 1);
-        x.learn(3, 1);
-        Check.text(x, 3, 1);
+    /** 'Editing': for the place 0, a sign behind the beginning. */
+    private static void promise02_editing_place0IsTheBeginning() {
+        Trial t = Trial.written(1);
+        t.insert(0, 0, 0).is(1);
+        t.behind(0).is(CoauthorText.NONE);
+        t.behind(1).is(CoauthorText.NONE);
+        t.textIs(0, 1, 0);
+        t.remove(0, 0).is(1);
+        t.insert(0, 0, 0).is(2);
+        t.behind(2).is(CoauthorText.NONE);
+        t.remove(0, 0).is(2);
+        t.remove(0, 0).is(0);
+        t.insert(0, 0, 0).is(3);
+        t.behind(3).is(CoauthorText.NONE);
     }
 
-    private static void learnRemovedSigns() {
-        CoauthorText x = new CoauthorText();
-        x.insert(0, 0, 0);
-        x.insert(0, 1, 1);
-        x.remove(0, 0);
-        Check.due("learn(3, 0)", 2, () -> x.learn(3, 0));
-        Check.text(x, 3, 1);
-        Check.due("restore(3, 0)", 0, () -> x.restore(3, 0));
-        Check.text(x, 3, 0, 1);
-        Check.due("learn(0, 3)", 0, () -> x.learn(0, 3));
-        Check.text(x, 0, 0, 1);
+    /** 'Editing': behind the sign at the place ahead in the text of this copy. */
+    private static void promise02_editing_behindTheSignAtThePlaceAhead() {
+        Trial t = Trial.written(3);
+        t.insert(0, 1, 0).is(3);
+        t.behind(3).is(0);
+        t.textIs(0, 0, 3, 1, 2);
+        t.insert(0, 4, 0).is(4);
+        t.behind(4).is(2);
+        t.insert(0, 3, 0).is(5);
+        t.behind(5).is(1);
+        t.textIs(0, 0, 3, 1, 5, 2, 4);
     }
 
-    private static void learnTheClock() {
-        CoauthorText x = new CoauthorText();
-        x.insert(0, 0, 0);
-        x.insert(0, 0, 0);
-        x.insert(1, 0, 0);
-        x.learn(0, 1);
-        Check.due("clock(0) stays", 2, () -> x.clock(0));
-        x.learn(1, 0);
-        Check.due("clock(1) becomes that of 0", 2, () -> x.clock(1));
-        Check.due("clock(0)", 2, () -> x.clock(0));
-        x.insert(1, 0, 0);
-        Check.due("clock(1)", 3, () -> x.clock(1));
-        x.learn(2, 3);
-        Check.due("clock(2)", 0, () -> x.clock(2));
+    private static void promise02_editing_removedSignsAreNotAhead() {
+        Trial t = Trial.written(3);
+        t.remove(0, 1).is(1);
+        t.insert(0, 1, 0).is(3);
+        t.behind(3).is(0);
+        t.textIs(0, 0, 3, 2);
+        t.insert(0, 3, 0).is(4);
+        t.behind(4).is(2);
     }
 
-    private static void learnWrongly() {
-        CoauthorText x = new CoauthorText();
-        x.insert(0, 0, 0);
-        for (int author : NO_AUTHORS) {
-            Check.argumentOut("learn(" + author + ", 0)", () -> x.learn(author, 0));
-            Check.argumentOut("learn(1, " + author + ")", () -> x.learn(1, author));
-            Check.argumentOut("learn twice " + author, () -> x.learn(author, author));
+    private static void promise02_signs_clockBecomes1More() {
+        Trial t = new Trial();
+        t.insert(2, 0, 0).is(0);
+        t.clocksAre(0, 0, 1, 0);
+        t.insert(2, 1, 0).is(1);
+        t.clocksAre(0, 0, 2, 0);
+        t.insert(0, 0, 0).is(2);
+        t.clocksAre(1, 0, 2, 0);
+    }
+
+    /** 'Signs': the clock, one more already, is that of the sign. */
+    private static void promise02_signs_theClockIsThatOfTheSign() {
+        Trial t = new Trial();
+        t.insert(0, 0, 0).is(0);
+        t.insert(1, 0, 0).is(1);
+        t.remove(0, 0).is(0);
+        t.restore(0, 0).is(0);
+        t.insert(0, 0, 0).is(2);
+        // Author 1 gets to 3 and inserts with 4, the same as the clock of sign 2.
+        t.remove(1, 0).is(1);
+        t.restore(1, 1).is(0);
+        t.insert(1, 0, 0).is(3);
+        t.learn(3, 0).is(2);
+        t.learn(3, 1).is(2);
+        t.textIs(3, 3, 2, 1, 0);
+    }
+
+    private static void promise02_otherCopiesDoNotKnowTheSign() {
+        Trial t = Trial.written(1);
+        t.textIs(0, 0);
+        for (int author = 1; author < 4; author++) {
+            t.length(author).is(0);
+            t.restore(author, 0).isRefused(Check.STATE);
         }
-        for (int author = 0; author < 4; author++) {
-            int a = author;
-            Check.argumentOut("learn(" + a + ", " + a + ")", () -> x.learn(a, a));
-        }
-        Check.due("length(1)", 0, () -> x.length(1));
-        Check.due("clock(1)", 0, () -> x.clock(1));
     }
 
-    /** Two authors write at once behind one sign; all that is behind goes with it. */
-    private static void orderOfCopies() {
-        CoauthorText x = new CoauthorText();
-        x.insert(0, 0, 0);
-        x.insert(0, 1, 1);
-        x.learn(1, 0);
-        x.insert(0, 1, 2);
-        x.insert(0, 2, 3);
-        x.insert(1, 1, 4);
-        x.insert(1, 2, 5);
-        x.insert(1, 2, 6);
-        Check.text(x, 0, 0, 2, 3, 1);
-        Check.text(x, 1, 0, 4, 6, 5, 1);
-        x.learn(0, 1);
-        x.learn(1, 0);
-        Check.text(x, 0, 0, 4, 6, 5, 2, 3, 1);
-        Check.text(x, 1, 0, 4, 6, 5, 2, 3, 1);
-        Check.due("insert(0, 5, 0)", 7, () -> x.insert(0, 5, 0));
-        Check.due("behind(7)", 2, () -> x.behind(7));
-        Check.text(x, 0, 0, 4, 6, 5, 2, 7, 3, 1);
+    // ---- promise 3: remove
+
+    private static void promise03_authorIs0To3() {
+        Trial t = Trial.written(1, 1, 1, 1);
+        for (int author : Trial.NO_AUTHORS) {
+            t.remove(author, 0).isRefused(Check.ARGUMENT);
+        }
+        for (int author : Trial.AUTHORS) {
+            t.remove(author, 0).is(author);
+        }
     }
 
-    private static void deepChain() {
-        CoauthorText x = new CoauthorText();
-        int[] ascending = new int[60];
-        for (int sign = 0; sign < 60; sign++) {
-            x.insert(3, sign, 0);
-            ascending[sign] = sign;
+    private static void promise03_noPlaceInAnEmptyText() {
+        Trial t = new Trial();
+        for (int place : new int[] {-1, 0, 1, LEAST, MOST}) {
+            t.remove(0, place).isRefused(Check.INDEX);
         }
-        Check.text(x, 3, ascending);
-        Check.due("learn(0, 3)", 60, () -> x.learn(0, 3));
-        Check.due("signAt(0, 59)", 59, () -> x.signAt(0, 59));
-        Check.due("behind(59)", 58, () -> x.behind(59));
+    }
+
+    private static void promise03_placeIs0ToTheLastOne() {
+        Trial t = Trial.written(3);
+        for (int place : new int[] {-1, 3, LEAST, MOST}) {
+            t.remove(0, place).isRefused(Check.INDEX);
+        }
+        t.remove(0, 2).is(2);
+        t.textIs(0, 0, 1);
+        t.remove(0, 2).isRefused(Check.INDEX);
+        t.remove(0, 0).is(0);
+        t.textIs(0, 1);
+        t.remove(0, 1).isRefused(Check.INDEX);
+        t.remove(0, 0).is(1);
+        t.textIs(0);
+        t.remove(0, 0).isRefused(Check.INDEX);
+    }
+
+    private static void promise03_placesOfAFullText() {
+        Trial t = Trial.written(60);
+        t.remove(0, 60).isRefused(Check.INDEX);
+        t.remove(0, -1).isRefused(Check.INDEX);
+        t.remove(0, 59).is(59);
+        t.remove(0, 59).isRefused(Check.INDEX);
+        t.remove(0, 0).is(0);
+        t.length(0).is(58);
+    }
+
+    private static void promise03_placeIsInTheTextOfTheCopy() {
+        Trial t = Trial.written(2);
+        t.learn(1, 0).is(2);
+        t.remove(1, 0).is(0);
+        t.remove(1, 1).isRefused(Check.INDEX);
+        t.remove(2, 0).isRefused(Check.INDEX);
+        t.remove(0, 1).is(1);
+        t.textIs(0, 0);
+        t.textIs(1, 1);
+    }
+
+    private static void promise03_terms_firstListedException() {
+        Trial t = Trial.written(1);
+        t.remove(4, 1).isRefused(Check.ARGUMENT);
+        t.remove(-1, -1).isRefused(Check.ARGUMENT);
+        new Trial().remove(4, 0).isRefused(Check.ARGUMENT);
+    }
+
+    private static void promise03_signs_clockBecomes1More() {
+        Trial t = Trial.written(1, 1);
+        t.remove(1, 0).is(1);
+        t.clocksAre(1, 2, 0, 0);
+        t.remove(0, 0).is(0);
+        t.clocksAre(2, 2, 0, 0);
+    }
+
+    private static void promise03_whatIsBehindARemovedSignStays() {
+        Trial t = Trial.written(3);
+        t.remove(0, 0).is(0);
+        t.textIs(0, 1, 2);
+        t.behind(1).is(0);
+        t.remove(0, 0).is(1);
+        t.textIs(0, 2);
+        t.signs().is(3);
+    }
+
+    /** 'Editing': a new stamp, which is greater than the one before. */
+    private static void promise03_editing_theLatestStampOfACopyCounts() {
+        Trial t = Trial.written(1);
+        t.learn(1, 0).is(1);
+        t.remove(0, 0).is(0);
+        t.restore(0, 0).is(0);
+        t.remove(0, 0).is(0);
+        // The stamp by author 1 is (3, 1), and that of author 0 is (4, 0).
+        t.remove(1, 0).is(0);
+        t.restore(1, 0).is(0);
+        t.learn(1, 0).is(0);
+        t.textIs(1);
+    }
+
+    // ---- promise 4: restore
+
+    private static void promise04_noSignInANewObject() {
+        Trial t = new Trial();
+        for (int sign : new int[] {-1, 0, 1, 59, 60, LEAST, MOST}) {
+            t.restore(0, sign).isRefused(Check.INDEX);
+        }
+    }
+
+    private static void promise04_signIs0ToTheLastOne() {
+        Trial t = Trial.written(3);
+        t.remove(0, 0).is(0);
+        t.remove(0, 1).is(2);
+        for (int sign : new int[] {-1, 3, 59, 60, LEAST, MOST}) {
+            t.restore(0, sign).isRefused(Check.INDEX);
+        }
+        t.restore(0, 2).is(1);
+        t.restore(0, 0).is(0);
+        t.textIs(0, 0, 1, 2);
+    }
+
+    private static void promise04_signsWhenAll60AreInserted() {
+        Trial t = Trial.written(60);
+        t.remove(0, 59).is(59);
+        t.restore(0, 60).isRefused(Check.INDEX);
+        t.restore(0, -1).isRefused(Check.INDEX);
+        t.restore(0, 59).is(59);
+        t.remove(0, 0).is(0);
+        t.restore(0, 0).is(0);
+        t.length(0).is(60);
+    }
+
+    private static void promise04_authorIs0To3() {
+        Trial t = Trial.written(1, 1, 1, 1);
+        for (int author : Trial.AUTHORS) {
+            t.remove(author, 0).is(author);
+        }
+        for (int author : Trial.NO_AUTHORS) {
+            t.restore(author, 0).isRefused(Check.ARGUMENT);
+        }
+        for (int author : Trial.AUTHORS) {
+            t.restore(author, author).is(0);
+        }
+    }
+
+    private static void promise04_copyDoesNotKnowTheSign() {
+        Trial t = Trial.written(1, 1);
+        t.remove(0, 0).is(0);
+        t.restore(1, 0).isRefused(Check.STATE);
+        t.restore(2, 0).isRefused(Check.STATE);
+        t.restore(0, 1).isRefused(Check.STATE);
+    }
+
+    private static void promise04_copyKnowsTheSignAsNeverRemoved() {
+        Trial t = Trial.written(2);
+        t.restore(0, 0).isRefused(Check.STATE);
+        t.restore(0, 1).isRefused(Check.STATE);
+        t.learn(1, 0).is(2);
+        t.remove(0, 0).is(0);
+        t.restore(1, 0).isRefused(Check.STATE);
+    }
+
+    private static void promise04_copyKnowsTheSignAsRestored() {
+        Trial t = Trial.written(1);
+        t.remove(0, 0).is(0);
+        t.learn(1, 0).is(1);
+        t.restore(0, 0).is(0);
+        t.restore(0, 0).isRefused(Check.STATE);
+        t.learn(1, 0).is(0);
+        t.restore(1, 0).isRefused(Check.STATE);
+    }
+
+    private static void promise04_aRemovalOfAnotherAuthorThatIsKnown() {
+        Trial t = Trial.written(1);
+        t.learn(1, 0).is(1);
+        t.remove(0, 0).is(0);
+        t.learn(1, 0).is(0);
+        t.learn(2, 0).is(1);
+        t.restore(1, 0).is(0);
+        t.restore(2, 0).is(0);
+        t.textIs(0);
+        t.textIs(1, 0);
+        t.textIs(2, 0);
+    }
+
+    private static void promise04_terms_firstListedException() {
+        Trial t = Trial.written(1);
+        t.restore(4, 1).isRefused(Check.INDEX);
+        t.restore(-1, -1).isRefused(Check.INDEX);
+        t.restore(MOST, 60).isRefused(Check.INDEX);
+        t.restore(4, 0).isRefused(Check.ARGUMENT);
+        t.restore(-1, 0).isRefused(Check.ARGUMENT);
+        new Trial().restore(4, 0).isRefused(Check.INDEX);
+    }
+
+    private static void promise04_returnsThePlaceInTheTextThen() {
+        Trial t = Trial.written(4);
+        t.remove(0, 3).is(3);
+        t.restore(0, 3).is(3);
+        t.remove(0, 1).is(1);
+        t.restore(0, 1).is(1);
+        t.remove(0, 0).is(0);
+        t.remove(0, 0).is(1);
+        // What is removed ahead of it is no place.
+        t.remove(0, 0).is(2);
+        t.restore(0, 2).is(0);
+        t.textIs(0, 2, 3);
+        t.restore(0, 0).is(0);
+        t.restore(0, 1).is(1);
+    }
+
+    private static void promise04_returnsThePlaceInItsOwnText() {
+        Trial t = Trial.written(1, 1);
+        t.learn(2, 0).is(1);
+        t.learn(2, 1).is(1);
+        t.remove(0, 0).is(0);
+        t.remove(2, 1).is(0);
+        t.restore(2, 0).is(1);
+        t.restore(0, 0).is(0);
+    }
+
+    private static void promise04_signs_clockBecomes1More() {
+        Trial t = Trial.written(1);
+        t.remove(0, 0).is(0);
+        t.learn(3, 0).is(1);
+        t.restore(3, 0).is(0);
+        t.clocksAre(2, 0, 0, 3);
+        t.restore(0, 0).is(0);
+        t.clocksAre(3, 0, 0, 3);
+    }
+
+    // ---- promise 5: learn
+
+    private static void promise05_authorAndFromAre0To3() {
+        Trial t = Trial.written(1, 1, 1, 1);
+        for (int author : Trial.NO_AUTHORS) {
+            t.learn(author, 0).isRefused(Check.ARGUMENT);
+            t.learn(author, 3).isRefused(Check.ARGUMENT);
+            t.learn(0, author).isRefused(Check.ARGUMENT);
+            t.learn(3, author).isRefused(Check.ARGUMENT);
+            t.learn(author, author).isRefused(Check.ARGUMENT);
+            t.learn(author, -1 - author).isRefused(Check.ARGUMENT);
+        }
+        t.learn(0, 3).is(1);
+        t.learn(3, 0).is(1);
+        t.learn(1, 2).is(1);
+        t.learn(2, 1).is(1);
+    }
+
+    private static void promise05_everyCopyLearnsFromEveryOtherOne() {
+        for (int author : Trial.AUTHORS) {
+            for (int from : Trial.AUTHORS) {
+                if (author != from) {
+                    Trial t = Trial.written(1, 2, 3, 4);
+                    t.learn(author, from).is(from + 1);
+                    t.length(author).is(author + from + 2);
+                    t.length(from).is(from + 1);
+                    t.clock(author).is(Math.max(author, from) + 1);
+                }
+            }
+        }
+    }
+
+    private static void promise05_fromIsAnotherOne() {
+        Trial t = Trial.written(1, 1);
+        for (int author : Trial.AUTHORS) {
+            t.learn(author, author).isRefused(Check.ARGUMENT);
+        }
+    }
+
+    private static void promise05_learnsNothingFromAnEmptyCopy() {
+        Trial t = new Trial();
+        t.learn(0, 1).is(0);
+        t.insert(0, 0, 1).is(0);
+        t.learn(0, 1).is(0);
+        t.textIs(0, 0);
+        t.textIs(1);
+        t.clocksAre(1, 0, 0, 0);
+    }
+
+    private static void promise05_learnsAll60() {
+        Trial t = Trial.written(60);
+        t.learn(3, 0).is(60);
+        t.learn(3, 0).is(0);
+        t.areAlike(0, 3).is(true);
+        t.length(3).is(60);
+        t.signAt(3, 0).is(0);
+        t.signAt(3, 59).is(59);
+    }
+
+    private static void promise05_returnsHowManyItDidNotKnow() {
+        Trial t = Trial.written(2, 3);
+        t.learn(0, 1).is(3);
+        t.learn(0, 1).is(0);
+        t.insert(1, 0, 0).is(5);
+        t.learn(0, 1).is(1);
+        t.learn(1, 0).is(2);
+        t.learn(2, 1).is(6);
+        t.learn(2, 0).is(0);
+    }
+
+    /** 'Editing': it knows all signs then that the other one knows, removed ones too. */
+    private static void promise05_editing_removedSignsAreLearnedAndCount() {
+        Trial t = Trial.written(3);
+        t.remove(0, 1).is(1);
+        t.learn(1, 0).is(3);
+        t.textIs(1, 0, 2);
+        t.restore(1, 1).is(1);
+        t.textIs(1, 0, 1, 2);
+        t.learn(1, 0).is(0);
+        t.learn(0, 1).is(0);
+        t.textIs(0, 0, 1, 2);
+    }
+
+    private static void promise05_editing_removedWithNothingElse() {
+        Trial t = Trial.written(1);
+        t.remove(0, 0).is(0);
+        t.learn(3, 0).is(1);
+        t.textIs(3);
+        t.learn(3, 0).is(0);
+        t.learn(2, 3).is(1);
+        t.restore(2, 0).is(0);
+    }
+
+    private static void promise05_removalsAreNotSignsThatItDidNotKnow() {
+        Trial t = Trial.written(2);
+        t.learn(1, 0).is(2);
+        t.remove(0, 0).is(0);
+        t.learn(1, 0).is(0);
+        t.textIs(1, 1);
+        t.restore(0, 0).is(0);
+        t.learn(1, 0).is(0);
+        t.textIs(1, 0, 1);
+    }
+
+    private static void promise05_theOtherCopyLearnsNothing() {
+        Trial t = Trial.written(1, 3);
+        t.remove(0, 0).is(0);
+        t.learn(0, 1).is(3);
+        t.textIs(1, 1, 2, 3);
+        t.restore(1, 0).isRefused(Check.STATE);
+        t.clocksAre(3, 3, 0, 0);
+    }
+
+    private static void promise05_whatItKnewItStillKnows() {
+        Trial t = Trial.written(2, 1);
+        t.remove(0, 0).is(0);
+        t.learn(0, 1).is(1);
+        t.textIs(0, 2, 1);
+        t.restore(0, 0).is(1);
+        t.textIs(0, 2, 0, 1);
+    }
+
+    private static void promise05_signsOfThirdOnesAreLearnedToo() {
+        Trial t = Trial.written(1);
+        t.learn(1, 0).is(1);
+        t.insert(1, 1, 0).is(1);
+        t.learn(2, 1).is(2);
+        t.insert(2, 2, 0).is(2);
+        t.learn(3, 2).is(3);
+        t.textIs(3, 0, 1, 2);
+        t.textIs(0, 0);
+    }
+
+    /** Sign 0 is removed by the author 0 with the stamp (2, 0), and all copies know that. */
+    private static Trial removedEverywhere() {
+        Trial t = Trial.written(1);
+        t.remove(0, 0).is(0);
+        for (int author = 1; author < 4; author++) {
+            t.learn(author, 0).is(1);
+        }
+        return t;
+    }
+
+    /** Two authors set the sign 0: one restores it, the other one ends with it removed. */
+    private static Trial setByTwo(int restorer, int restoredAt, int remover, int removedAt) {
+        Trial t = removedEverywhere();
+        for (int clock = 2; clock < restoredAt; clock += 2) {
+            t.restore(restorer, 0).is(0);
+            if (clock + 1 < restoredAt) {
+                t.remove(restorer, 0).is(0);
+            }
+        }
+        for (int clock = 2; clock < removedAt; clock += 2) {
+            t.restore(remover, 0).is(0);
+            t.remove(remover, 0).is(0);
+        }
+        t.clock(remover).is(removedAt);
+        return t;
+    }
+
+    private static void eachOfBothHolds(Trial t, int one, int other, boolean removed) {
+        int[] text = removed ? new int[0] : new int[] {0};
+        int third = 0;
+        while (third == one || third == other) {
+            third++;
+        }
+        // A third copy hears of both, the later stamp first and last.
+        t.learn(third, one).is(0);
+        t.learn(third, other).is(0);
+        t.learn(third, one).is(0);
+        t.textIs(third, text);
+        t.learn(one, other).is(0);
+        t.textIs(one, text);
+        t.learn(other, one).is(0);
+        t.textIs(other, text);
+    }
+
+    /** 'Editing': the greater clock counts, whichever author is greater. */
+    private static void promise05_editing_greaterClockOfTheRestoration() {
+        for (int restorer : Trial.AUTHORS) {
+            for (int remover : Trial.AUTHORS) {
+                if (restorer != remover) {
+                    Trial t = setByTwo(restorer, 5, remover, 4);
+                    t.clock(restorer).is(5);
+                    eachOfBothHolds(t, restorer, remover, false);
+                }
+            }
+        }
+    }
+
+    private static void promise05_editing_greaterClockOfTheRemoval() {
+        for (int restorer : Trial.AUTHORS) {
+            for (int remover : Trial.AUTHORS) {
+                if (restorer != remover) {
+                    Trial t = setByTwo(restorer, 3, remover, 4);
+                    t.clock(restorer).is(3);
+                    eachOfBothHolds(t, remover, restorer, true);
+                }
+            }
+        }
+    }
+
+    /** 'Editing': with the same clock the greater author counts. */
+    private static void promise05_editing_greaterAuthorOfTheSameClock() {
+        for (int restorer : Trial.AUTHORS) {
+            for (int remover : Trial.AUTHORS) {
+                if (restorer != remover) {
+                    sameClock(restorer, remover);
+                }
+            }
+        }
+    }
+
+    private static void sameClock(int restorer, int remover) {
+        Trial t = removedEverywhere();
+        t.insert(restorer, 0, 0).is(1);
+        t.restore(restorer, 0).is(1);
+        t.restore(remover, 0).is(0);
+        t.remove(remover, 0).is(0);
+        t.clock(restorer).is(4);
+        t.clock(remover).is(4);
+        int[] text = restorer > remover ? new int[] {1, 0} : new int[] {1};
+        t.learn(restorer, remover).is(0);
+        t.textIs(restorer, text);
+        t.learn(remover, restorer).is(1);
+        t.textIs(remover, text);
+    }
+
+    /** 'Editing': one that was never removed has a stamp that is less than all others. */
+    private static void promise05_editing_neverRemovedIsLessThanTheLeastStamp() {
+        Trial t = Trial.written(1);
+        t.learn(3, 0).is(1);
+        // The clock of copy 3 is greater, but it set nothing about the sign 0.
+        t.write(3, 4, 1, 1);
+        t.remove(0, 0).is(0);
+        t.learn(0, 3).is(4);
+        t.textIs(0, 1, 2, 3, 4);
+        t.learn(3, 0).is(0);
+        t.textIs(3, 1, 2, 3, 4);
+    }
+
+    private static void promise05_editing_neverRemovedIsLessThanARestoration() {
+        Trial t = Trial.written(1);
+        for (int author = 1; author < 4; author++) {
+            t.learn(author, 0).is(1);
+        }
+        t.remove(0, 0).is(0);
+        t.restore(0, 0).is(0);
+        t.remove(2, 0).is(0);
+        // The restoration is (3, 0) and the removal (2, 2): copy 1 takes the first along.
+        t.learn(1, 0).is(0);
+        t.learn(1, 2).is(0);
+        t.textIs(1, 0);
+        // Copy 3 takes the removal first, and then the restoration.
+        t.learn(3, 2).is(0);
+        t.textIs(3);
+        t.learn(3, 0).is(0);
+        t.textIs(3, 0);
+    }
+
+    private static void promise05_editing_sameStampChangesNothing() {
+        Trial t = removedEverywhere();
+        t.learn(1, 0).isAndChangesNothing(0);
+        t.learn(3, 2).isAndChangesNothing(0);
+        t.textIs(1);
+        t.restore(2, 0).is(0);
+        t.learn(3, 2).is(0);
+        t.learn(2, 3).isAndChangesNothing(0);
+        t.textIs(2, 0);
+        t.textIs(3, 0);
+    }
+
+    private static void promise05_editing_theStampTravelsWithTheSign() {
+        Trial t = Trial.written(1);
+        t.remove(0, 0).is(0);
+        t.restore(0, 0).is(0);
+        t.remove(0, 0).is(0);
+        // Copy 1 did not know the sign; what it learns has the stamp (4, 0).
+        t.learn(1, 0).is(1);
+        t.learn(2, 1).is(1);
+        t.restore(0, 0).is(0);
+        t.learn(2, 0).is(0);
+        t.textIs(2, 0);
+        t.learn(2, 1).is(0);
+        t.textIs(2, 0);
+        t.learn(1, 2).is(0);
+        t.textIs(1, 0);
+    }
+
+    /** 'Editing': the clock becomes that of the other one, if that is greater. */
+    private static void promise05_editing_theClockIfTheOtherIsGreater() {
+        Trial less = Trial.written(3, 2);
+        less.learn(0, 1).is(2);
+        less.clocksAre(3, 2, 0, 0);
+        Trial same = Trial.written(3, 3);
+        same.learn(0, 1).is(3);
+        same.clocksAre(3, 3, 0, 0);
+        Trial greater = Trial.written(3, 4);
+        greater.learn(0, 1).is(4);
+        greater.clocksAre(4, 4, 0, 0);
+        greater.insert(0, 0, 0).is(7);
+        greater.clocksAre(5, 4, 0, 0);
+        greater.learn(2, 3).is(0);
+        greater.clocksAre(5, 4, 0, 0);
+        greater.learn(2, 0).is(8);
+        greater.clocksAre(5, 4, 5, 0);
+    }
+
+    private static void promise05_editing_theClockThoughNothingIsLearned() {
+        Trial t = Trial.written(1);
+        t.learn(1, 0).is(1);
+        t.remove(0, 0).is(0);
+        t.restore(0, 0).is(0);
+        t.learn(1, 0).is(0);
+        t.clocksAre(3, 3, 0, 0);
     }
 }
