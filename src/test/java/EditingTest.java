@@ -433,6 +433,11 @@ public final class EditingTest {
         t.learn(1, 0).is(2);
         t.remove(0, 0).is(0);
         t.restore(1, 0).isRefused(Check.STATE);
+        // A refused restoration leaves no stamp, which with this clock would be the greater one.
+        t.write(1, 3, 2, 2);
+        t.restore(1, 0).isRefused(Check.STATE);
+        t.learn(1, 0).is(0);
+        t.restore(1, 0).is(0);
     }
 
     private static void promise04_copyKnowsTheSignAsRestored() {
@@ -443,6 +448,11 @@ public final class EditingTest {
         t.restore(0, 0).isRefused(Check.STATE);
         t.learn(1, 0).is(0);
         t.restore(1, 0).isRefused(Check.STATE);
+        t.remove(0, 0).is(0);
+        t.write(1, 3, 1, 1);
+        t.restore(1, 0).isRefused(Check.STATE);
+        t.learn(1, 0).is(0);
+        t.restore(1, 0).is(0);
     }
 
     private static void promise04_aRemovalOfAnotherAuthorThatIsKnown() {
@@ -776,21 +786,50 @@ public final class EditingTest {
         t.textIs(3, 0);
     }
 
-    private static void promise05_editing_theStampTravelsWithTheSign() {
+    /** 'Signs': a copy knows "whether it is removed, with a stamp": of a sign that is new to it too. */
+    private static void promise05_editing_aNewSignComesWithTheStampOfItsRemoval() {
         Trial t = Trial.written(1);
+        t.learn(2, 0).is(1);
         t.remove(0, 0).is(0);
         t.restore(0, 0).is(0);
         t.remove(0, 0).is(0);
-        // Copy 1 did not know the sign; what it learns has the stamp (4, 0).
+        t.remove(2, 0).is(0);
+        t.restore(2, 0).is(0);
+        // The removal is (4, 0), and the restoration (3, 2).
         t.learn(1, 0).is(1);
-        t.learn(2, 1).is(1);
+        t.learn(1, 2).is(0);
+        t.textIs(1);
+        t.learn(3, 1).is(1);
+        t.learn(3, 2).is(0);
+        t.textIs(3);
+        t.learn(2, 3).is(0);
+        t.textIs(2);
+    }
+
+    private static void promise05_editing_aNewSignComesWithTheStampOfItsRestoration() {
+        Trial t = Trial.written(1);
+        t.learn(2, 0).is(1);
+        t.remove(0, 0).is(0);
         t.restore(0, 0).is(0);
-        t.learn(2, 0).is(0);
-        t.textIs(2, 0);
-        t.learn(2, 1).is(0);
-        t.textIs(2, 0);
+        t.remove(2, 0).is(0);
+        // The restoration is (3, 0), and the removal (2, 2).
+        t.learn(1, 0).is(1);
         t.learn(1, 2).is(0);
         t.textIs(1, 0);
+        t.learn(3, 1).is(1);
+        t.learn(3, 2).is(0);
+        t.textIs(3, 0);
+        t.learn(2, 3).is(0);
+        t.textIs(2, 0);
+    }
+
+    private static void promise05_editing_aNewSignThatWasNeverRemovedHasTheLeastStamp() {
+        Trial t = Trial.written(1);
+        t.write(1, 5, 1, 0);
+        t.learn(1, 0).is(1);
+        t.remove(0, 0).is(0);
+        t.learn(1, 0).is(0);
+        t.textIs(1, 1, 2, 3, 4, 5);
     }
 
     /** 'Editing': the clock becomes that of the other one, if that is greater. */
