@@ -1,3 +1,4 @@
+import java.util.ArrayList;
 import java.util.List;
 
 /**
@@ -11,7 +12,8 @@ final class Probes {
     private static final int KINDS = 9;
 
     private final CoauthorText x = new CoauthorText();
-    private final StringBuilder seen = new StringBuilder();
+    private final List<String> seen = new ArrayList<>();
+    private String looksAt = "";
     private int calls = 0;
 
     private Probes() {
@@ -20,14 +22,24 @@ final class Probes {
     static void compare(String told, List<Trial.Call> run, Trial.Call call) {
         for (int kind = 0; kind < KINDS; kind++) {
             for (int author = 0; author < AUTHORS; author++) {
-                String due = seenAfter(run, null, kind, author);
-                String got = seenAfter(run, call, kind, author);
-                Check.told("what is seen after " + told, due, got);
+                Probes due = after(run, null, kind, author);
+                Probes got = after(run, call, kind, author);
+                tellFirstDifference(told, due, got);
             }
         }
     }
 
-    private static String seenAfter(List<Trial.Call> run, Trial.Call call, int kind, int author) {
+    private static void tellFirstDifference(String told, Probes due, Probes got) {
+        int at = 0;
+        while (at < Math.min(due.seen.size(), got.seen.size()) - 1
+                && due.seen.get(at).equals(got.seen.get(at))) {
+            at++;
+        }
+        Check.told("after " + told + ", " + due.looksAt + ", answer " + at,
+                due.seen.get(at), got.seen.get(at));
+    }
+
+    private static Probes after(List<Trial.Call> run, Trial.Call call, int kind, int author) {
         Probes probes = new Probes();
         for (Trial.Call made : run) {
             probes.make(made);
@@ -35,18 +47,19 @@ final class Probes {
         if (call != null) {
             probes.make(call);
         }
-        probes.seen.setLength(0);
+        probes.seen.clear();
         probes.look(kind, author);
+        probes.seen.add("the end");
         if (probes.calls > MOST_CALLS) {
             Check.told("the calls of a probe", "at most " + MOST_CALLS, "" + probes.calls);
         }
-        return probes.seen.toString();
+        return probes;
     }
 
     private String make(Trial.Call call) {
         calls++;
         String answer = Check.outcome(() -> call.on(x));
-        seen.append(answer).append(' ');
+        seen.add(answer);
         return answer;
     }
 
@@ -68,7 +81,7 @@ final class Probes {
     }
 
     private void lookAtText(int author) {
-        seen.append("clock, length, signs and letters of copy ").append(author).append(": ");
+        looksAt += "clock, length, signs and letters of copy " + author;
         make(x -> x.clock(author));
         int length = count(x -> x.length(author));
         for (int place = 0; place < length; place++) {
@@ -79,7 +92,7 @@ final class Probes {
     }
 
     private void lookAtSigns(int author) {
-        seen.append("signs, authorOf, behind, and areAlike of ").append(author).append(": ");
+        looksAt += "signs, authorOf and behind of each, areAlike of " + author;
         int signs = count(x -> x.signs());
         for (int sign = 0; sign < signs; sign++) {
             int s = sign;
@@ -93,7 +106,7 @@ final class Probes {
     }
 
     private void lookAtMoney(int author) {
-        seen.append("paid, left, printed, advance of ").append(author).append(", floor: ");
+        looksAt += "paid, left, printed and advance of " + author + ", the floor";
         make(x -> x.paid(author));
         make(x -> x.left(author));
         for (int edition = 0; edition < 21; edition++) {
@@ -106,13 +119,13 @@ final class Probes {
 
     /** A sign's stamp shows by what the other copy then holds. */
     private void learnAndLook(int author, int from) {
-        seen.append("learn(").append(author).append(", ").append(from).append(") and ");
+        looksAt += "learn(" + author + ", " + from + ") and then ";
         make(x -> x.learn(author, from));
         lookAtText(author);
     }
 
     private void restoreAll(int author) {
-        seen.append("restore by ").append(author).append(" of each sign: ");
+        looksAt += "signs, and restore by " + author + " of each";
         int signs = count(x -> x.signs());
         for (int sign = 0; sign < signs; sign++) {
             int s = sign;
@@ -121,14 +134,14 @@ final class Probes {
     }
 
     private void insertAndRemove(int author) {
-        seen.append("insert and remove by ").append(author).append(" and ");
+        looksAt += "insert and remove by " + author + ", and then ";
         make(x -> x.insert(author, 0, 5));
         make(x -> x.remove(author, 0));
         lookAtText(author);
     }
 
     private void printAndSell(int author) {
-        seen.append("print(").append(author).append(") and the sale of each edition: ");
+        looksAt += "print(" + author + "), the sale of each edition, paid and left of each";
         make(x -> x.print(author));
         for (int edition = 0; edition < 21; edition++) {
             int e = edition;
